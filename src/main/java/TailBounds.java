@@ -591,7 +591,7 @@ public final class TailBounds {
             return 0;
         }
 
-        private void widenTo(int parts) {
+        void widenTo(int parts) {
             int wanted = Math.min(parts, part.length);
             while (size < wanted) {
                 part[size] = 0;
@@ -609,38 +609,21 @@ public final class TailBounds {
         }
 
         void addShifted(Num x, int shift) {
-            int from = Math.max(shift, 0) >> 5;
-            int by = shift & 31;
-            widenTo(Math.max(size, from + x.size + 1) + 1);
-            long spill = 0;
-            long carry = 0;
-            for (int i = from; i < size; i++) {
-                if (i - from > x.size && carry == 0) {
-                    break;
-                }
-                spill += x.word(i - from) << by;
-                carry += (part[i] & LOW) + (spill & LOW);
-                part[i] = (int) carry;
-                spill >>>= 32;
-                carry >>>= 32;
-            }
-            trim();
+            addScaled(shift >> 5, x.part, 0, x.size, 1L << (shift & 31));
         }
 
-        // Adds what lies in a row of parts times a factor below 2^31.
-        void addScaled(int[] cells, int from, int parts, long factor) {
-            if (from < 0 || from > cells.length - parts) {
+        // Adds some of a row's cells times a factor of at most 2^31, the first of them to the part at.
+        void addScaled(int at, int[] cells, int from, int many, long factor) {
+            if (at < 0 || from < 0 || from > cells.length - many) {
                 return;
             }
-            widenTo(Math.max(size, parts + 1) + 1);
+            int end = at + many;
+            widenTo(Math.max(size, end + 1) + 1);
             long carry = 0;
-            for (int i = 0; i < size; i++) {
-                if (i >= parts && carry == 0) {
-                    break;
-                }
+            for (int i = at; i < size && (i < end || carry != 0); i++) {
                 carry += part[i] & LOW;
-                if (i < parts) {
-                    carry += (cells[from + i] & LOW) * factor;
+                if (i < end) {
+                    carry += (cells[from + i - at] & LOW) * factor;
                 }
                 part[i] = (int) carry;
                 carry >>>= 32;
@@ -825,7 +808,13 @@ public final class TailBounds {
 
         void addTo(Num sum, int v, int factor) {
             if (!lacks(v)) {
-                sum.addScaled(cells, v * wide, wide, factor);
+                sum.addScaled(0, cells, v * wide, wide, factor);
+            }
+        }
+
+        void addShiftedTo(Num sum, int v, int shift) {
+            if (!lacks(v)) {
+                sum.addScaled(shift >> 5, cells, v * wide, wide, 1L << (shift & 31));
             }
         }
 
@@ -1262,9 +1251,7 @@ public final class TailBounds {
             into.clear();
             for (int v = of.row.top; v >= 0; v--) {
                 into.scale(j);
-                first.clear();
-                of.row.addTo(first, v, 1);
-                into.addShifted(first, 2 * (of.row.top - v));
+                of.row.addShiftedTo(into, v, 2 * (of.row.top - v));
             }
         }
     }

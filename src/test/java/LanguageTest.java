@@ -1,0 +1,115 @@
+import java.lang.reflect.Field;
+import java.lang.reflect.Method;
+import java.lang.reflect.Modifier;
+import java.nio.file.Files;
+import java.nio.file.Path;
+import java.util.Arrays;
+import java.util.Set;
+import java.util.TreeSet;
+import java.util.regex.Matcher;
+import java.util.regex.Pattern;
+
+/** The face of the class, and those rules of LANGUAGE.md that can be seen in the text. Run from the project's root. */
+public final class LanguageTest {
+    private static final String FACE = "weight(int)int wipe()int coins(int,int,int)int drawn(int,int,int)int sums(int)int both(int,int)int "
+        + "held(int,int,int)int source(int,int)int counted(int,int)int set(int,int,int)int mean(int,int)int moment(int,int,int)int "
+        + "tail(int,int,int,int)int bound(int,int,int,int)int base()int work(int,int,int,int)int order(int,int)int limbs(int,int)int "
+        + "limb(int,int,int)long digits(int,int)long free(int)int coin(int,int)int needed(int,int,int,int,int)int line(int,int,int)int "
+        + "crossed(int,int,int)int count(int)int";
+    private static final String[] FORBIDDEN = {"\\bthrow\\b", "\\bthrows\\b", "\\btry\\b", "\\bcatch\\b", "\\bsynchronized\\b", "\\bassert\\b", "->", "::",
+        "Exact\\b", "\\bBigInteger\\b", "\\bSystem\\.(?!arraycopy\\b)", "\\bstatic\\s*\\{", "\\bprotected\\b", "\\bvar\\b", "\\bObject\\b", "\"", "\\bhashCode\\b",
+        "\\bArrays\\.(?!copyOf\\b|copyOfRange\\b|fill\\b)", "\\bMath\\.(?!abs\\b|min\\b|max\\b)", "\\[\\]\\[\\]"};
+    private static int wrong = 0;
+
+    public static void main(String[] args) throws Exception {
+        checkFace();
+        checkClasses();
+        checkText(Files.readString(Path.of("src/main/java/TailBounds.java")));
+        System.out.println(wrong == 0 ? "language: all as due" : "language: " + wrong + " not as due");
+        if (wrong != 0) {
+            System.exit(1);
+        }
+    }
+
+    private static void due(boolean holds, String what) {
+        if (!holds) {
+            wrong++;
+            System.out.println(what);
+        }
+    }
+
+    private static void checkFace() throws Exception {
+        Class<?> c = TailBounds.class;
+        due(Modifier.isPublic(c.getModifiers()) && Modifier.isFinal(c.getModifiers()), "the class is not public and final");
+        due(c.getDeclaredConstructors().length == 1 && c.getConstructors().length == 1, "not just the one constructor");
+        Set<String> open = new TreeSet<>();
+        Set<String> names = new TreeSet<>();
+        for (Method m : c.getDeclaredMethods()) {
+            if (!Modifier.isPrivate(m.getModifiers())) {
+                String kinds = Arrays.toString(m.getParameterTypes()).replaceAll("[\\[\\] ]", "");
+                open.add(m.getName() + "(" + kinds + ")" + m.getReturnType());
+                names.add(m.getName());
+            }
+        }
+        due(open.equals(new TreeSet<>(Arrays.asList(FACE.split(" ")))), "the open methods are " + open);
+        Set<String> constants = new TreeSet<>();
+        for (Field f : c.getDeclaredFields()) {
+            if (!Modifier.isPrivate(f.getModifiers())) {
+                constants.add(f.getName() + f.getInt(null));
+            }
+        }
+        due(constants.equals(Set.of("BAD-1", "NOTHING-2", "FULL-3", "WIDE-4", "NONE-5")), "the open constants are " + constants);
+        for (Class<?> inner : c.getDeclaredClasses()) {
+            for (Method m : inner.getDeclaredMethods()) {
+                due(!names.contains(m.getName()), inner + " has a method with an open name: " + m.getName());
+            }
+        }
+        for (Method m : c.getDeclaredMethods()) {
+            due(!Modifier.isPrivate(m.getModifiers()) || !names.contains(m.getName()), "a private method with an open name: " + m.getName());
+        }
+    }
+
+    private static void checkClasses() {
+        Class<?>[] inner = TailBounds.class.getDeclaredClasses();
+        due(inner.length <= 12, "too many classes");
+        for (Class<?> c : inner) {
+            due(Modifier.isStatic(c.getModifiers()) && !Modifier.isPublic(c.getModifiers()), c + " is not static, or open");
+            checkMembers(c);
+        }
+        checkMembers(TailBounds.class);
+    }
+
+    private static void checkMembers(Class<?> c) {
+        int own = 0;
+        for (Field f : c.getDeclaredFields()) {
+            boolean isStatic = Modifier.isStatic(f.getModifiers());
+            own += isStatic ? 0 : 1;
+            due(!isStatic || (Modifier.isFinal(f.getModifiers()) && f.getType().isPrimitive()), c + " has static state: " + f.getName());
+        }
+        due(own <= 20, c + " has too many fields");
+        for (Method m : c.getDeclaredMethods()) {
+            due(m.getParameterCount() <= 7, m + " takes too much");
+        }
+    }
+
+    private static void checkText(String text) {
+        String code = text.replaceAll("(?s)/\\*.*?\\*/", "").replaceAll("//[^\n]*", "");
+        for (String word : FORBIDDEN) {
+            Matcher found = Pattern.compile(word).matcher(code);
+            due(!found.find(), "forbidden: " + word);
+        }
+        for (String row : code.split("\n")) {
+            due(!row.startsWith("import ") || row.matches("import java\\.util\\.(Arrays|ArrayList|List);"), "forbidden: " + row);
+            due(!row.startsWith("package"), "a package");
+        }
+        due(text.chars().allMatch(ch -> ch < 128), "a character beyond ASCII");
+        int since = 0;
+        String[] rows = text.split("\n");
+        for (int i = 0; i < rows.length; i++) {
+            if (rows[i].matches(" {4,8}[a-zA-Z].*\\) \\{")) {
+                since = i;
+            }
+            due(!rows[i].matches(" {4,8}}") || i - since <= 60, "a method ends too late, row " + (i + 1));
+        }
+    }
+}
