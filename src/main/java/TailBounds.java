@@ -86,9 +86,12 @@ public final class TailBounds {
         if (outside(n, 0, MOST_TOSSES) || notOdds(a, b)) {
             return BAD;
         }
+        if (isFull()) {
+            return FULL;
+        }
         odds[0] = b - a;
         odds[1] = a;
-        return keepRounds(COINS, n, odds, 2);
+        return keep(COINS, makeRounds(n, odds, 2));
     }
 
     public int drawn(int all, int good, int n) {
@@ -110,7 +113,7 @@ public final class TailBounds {
         if (outside(n, 0, MOST_SUMMED) || together(weights, weightCount) == 0) {
             return BAD;
         }
-        return keepRounds(SUMS, n, weights, weightCount);
+        return isFull() ? FULL : keep(SUMS, makeRounds(n, weights, weightCount));
     }
 
     public int both(int x, int y) {
@@ -231,7 +234,16 @@ public final class TailBounds {
         if (place == null || one == null || outside(k, 0, HIGHEST) || outside(kind, 0, 4)) {
             return BAD;
         }
-        int found = measurer.findBound(one, k, kind, outcome);
+        int found = 0;
+        if (!measurer.isAboveMean(one, k)) {
+            outcome.put(1, 1);
+        } else if (kind == 0) {
+            measurer.boundByMean(one, k, outcome);
+        } else if (kind == 4) {
+            found = measurer.boundByPowers(one, k, outcome);
+        } else {
+            measurer.boundByMoment(one, k, kind, outcome);
+        }
         outcome.capAtOne();
         int done = settle(place);
         if (done > 0 && kind == 4) {
@@ -463,10 +475,7 @@ public final class TailBounds {
     }
 
     // COINS are SUMS with two WEIGHTS, so both are made here.
-    private int keepRounds(int kind, int n, int[] shares, int numbers) {
-        if (isFull()) {
-            return FULL;
-        }
+    private Row makeRounds(int n, int[] shares, int numbers) {
         spare.power(together(shares, numbers), n);
         int step = numbers - 1;
         Row row = new Row(n * step, spare.size);
@@ -474,7 +483,7 @@ public final class TailBounds {
         for (int i = 1; i <= n; i++) {
             row.addRound(shares, numbers, i * step);
         }
-        return keep(kind, row);
+        return row;
     }
 
     private int keep(int kind, Row row) {
@@ -592,24 +601,27 @@ public final class TailBounds {
         }
 
         void widenTo(int parts) {
-            int wanted = Math.min(parts, part.length);
-            while (size < wanted) {
+            while (size < parts && size < part.length) {
                 part[size] = 0;
                 size++;
             }
         }
 
-        void add(Num x) {
-            addShifted(x, 0);
-        }
-
         void copyShifted(Num x, int shift) {
+            int from = Math.max(shift, 0) >> 5;
             size = 0;
-            addShifted(x, shift);
+            widenTo(from + x.size + 1);
+            long spill = 0;
+            for (int i = from; i < size; i++) {
+                spill |= x.word(i - from) << (shift & 31);
+                part[i] = (int) spill;
+                spill >>>= 32;
+            }
+            trim();
         }
 
-        void addShifted(Num x, int shift) {
-            addScaled(shift >> 5, x.part, 0, x.size, 1L << (shift & 31));
+        void add(Num x) {
+            addScaled(0, x.part, 0, x.size, 1);
         }
 
         // Adds some of a row's cells times a factor of at most 2^31, the first of them to the part at.
@@ -914,28 +926,22 @@ public final class TailBounds {
             divisor.copyShifted(y, by);
             rest.copyShifted(x, by);
             int places = rest.size - divisor.size;
-            if (divisor.size > 0 && places >= 0) {
+            if (divisor.size > 0 && places >= 0 && places < quotient.part.length) {
                 rest.widenTo(rest.size + 1);
                 quotient.widenTo(places + 1);
                 for (int at = places; at >= 0; at--) {
-                    divideAt(at);
+                    long guess = guessAt(at);
+                    if (takeAway(at, guess)) {
+                        giveBack(at);
+                        guess--;
+                    }
+                    quotient.part[at] = (int) guess;
                 }
                 quotient.trim();
                 rest.trim();
             }
             rest.shiftDown(by);
             return quotient;
-        }
-
-        private void divideAt(int at) {
-            long guess = guessAt(at);
-            if (takeAway(at, guess)) {
-                giveBack(at);
-                guess--;
-            }
-            if (at < quotient.size) {
-                quotient.part[at] = (int) guess;
-            }
         }
 
         // From the two highest parts of the divisor: right, or too high by one.
@@ -1010,7 +1016,8 @@ public final class TailBounds {
                 } else if (findLeap()) {
                     leap();
                 } else {
-                    stepWhole();
+                    divide(high, low);
+                    moveOn();
                 }
             }
         }
@@ -1027,8 +1034,7 @@ public final class TailBounds {
             low.clear();
         }
 
-        private void stepWhole() {
-            divide(high, low);
+        private void moveOn() {
             Num old = high;
             high = low;
             low = rest;
@@ -1130,28 +1136,19 @@ public final class TailBounds {
             into.below.product(second, of.total);
         }
 
-        // Answers the BASE, 0 if there is none.
-        int findBound(Source of, int k, int kind, Fraction into) {
+        boolean isAboveMean(Source of, int k) {
             second.copy(of.mean.below);
             second.scale(k);
-            if (second.against(of.mean.above) <= 0) {
-                into.put(1, 1);
-                return 0;
-            }
-            if (kind == 4) {
-                return leastByPowers(of, k, into);
-            }
-            if (kind == 0) {
-                into.above.copy(of.mean.above);
-                into.below.copy(second);
-            } else {
-                boundByMoment(of, k, kind, into);
-            }
-            return 0;
+            return second.against(of.mean.above) > 0;
+        }
+
+        void boundByMean(Source of, int k, Fraction into) {
+            into.copy(of.mean);
+            into.below.scale(k);
         }
 
         // MOMENT n by (k - MEAN)^n: the t^n below both of them is left out.
-        private void boundByMoment(Source of, int k, int kind, Fraction into) {
+        void boundByMoment(Source of, int k, int kind, Fraction into) {
             if (kind == 2) {
                 spreadOfFour(of, into.above);
             } else {
@@ -1222,8 +1219,8 @@ public final class TailBounds {
             into.subtract(third);
         }
 
-        // What is weighed is convex in log t, so the first that is not less ends the search.
-        private int leastByPowers(Source of, int k, Fraction into) {
+        // Answers the BASE. What is weighed is convex in log t, so the first that is not less ends the search.
+        int boundByPowers(Source of, int k, Fraction into) {
             int best = 0;
             for (int j = 5; j <= 12; j++) {
                 weigh(of, j, into.above);
