@@ -537,6 +537,14 @@ public final class PromisesTest {
         due(x.base(), 0);
         due(x.bound(0, 0, 10, 4), 1);
         due(x.base(), 12);
+        // (15 / t + 8 t) / 23 is the same at 5 / 4 and at 6 / 4: the first of them counts
+        x.weight(15);
+        x.weight(0);
+        x.weight(8);
+        due(x.sums(1), 2);
+        due(x.bound(0, 2, 1, 4), 1);
+        holds(x, 0, 22, 23);
+        due(x.base(), 5);
     }
 
     private static void work() {
