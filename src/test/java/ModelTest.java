@@ -6,10 +6,12 @@ import java.util.Random;
 /** Long runs of drawn calls, each answer held against a model that follows the document's words with BigInteger. */
 public final class ModelTest {
     private static final int CALLS = 512;
+    // A look at a PLACE asks for 32 LIMBS and one more on each side, and how many there are; three calls may stand ahead of it.
+    private static final int DEAREST_STEP = 2 * 34 + 3;
     private static int wrong = 0;
 
     public static void main(String[] args) {
-        int runs = args.length > 0 ? Integer.parseInt(args[0]) : 120;
+        int runs = args.length > 0 ? Integer.parseInt(args[0]) : 800;
         for (int run = 0; run < runs && wrong < 20; run++) {
             new Run(run).go();
         }
@@ -26,6 +28,7 @@ public final class ModelTest {
         final TailBounds real = new TailBounds();
         final Model model = new Model();
         int call = 0;
+        int asked = 0;
 
         Run(int number) {
             this.number = number;
@@ -33,7 +36,7 @@ public final class ModelTest {
         }
 
         void go() {
-            for (call = 0; call < CALLS && wrong < 20; call++) {
+            for (call = 0; asked <= CALLS - DEAREST_STEP && wrong < 20; call++) {
                 if (call < 13 && number % 6 == 1) {
                     buildWide();
                 } else if (call < 13 && number % 6 == 4) {
@@ -62,7 +65,7 @@ public final class ModelTest {
                 return most + 1;
             }
             if (way == 2) {
-                return random.nextInt();
+                return random.nextInt(3) == 0 ? random.nextInt() : random.nextBoolean() ? Integer.MIN_VALUE : Integer.MAX_VALUE;
             }
             if (way < 6) {
                 return least;
@@ -177,6 +180,7 @@ public final class ModelTest {
         }
 
         void due(String what, long got, long want) {
+            asked++;
             if (got != want) {
                 wrong++;
                 System.out.println("run " + number + " call " + call + ": " + what + " answered " + got + ", due is " + want);

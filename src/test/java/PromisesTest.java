@@ -599,8 +599,10 @@ public final class PromisesTest {
         due(x.work(1, 3, 0, 0), WIDE);
         due(x.work(0, 3, 3, 3), WIDE);
         due(x.limb(3, 0, 31), 2147483648L);
+        // 1 / 2^1023: ten times the square of it, and a half of that
         x.set(4, 1, 1);
-        for (int i = 0; i < 1023; i++) {
+        for (int i = 0; i < 10; i++) {
+            due(x.work(1, 4, 4, 4), 1);
             due(x.work(1, 4, 4, 1), 1);
         }
         due(x.limbs(4, 1), 32);
@@ -829,6 +831,7 @@ public final class PromisesTest {
         TailBounds x = begin(26);
         int[][] setups = {{1, 2, 0, 1, 2}, {1, 3, 1, 1, 3}, {2, 3, 2, 1, 2}, {3, 4, 1, 3, 5}, {0, 2, 0, 1, 7}, {2, 2, 3, 1, 4}, {1, 2, 0, 0, 9}};
         for (int[] s : setups) {
+            x = new TailBounds();
             due(x.coin(s[0], s[1]), 1);
             due(x.line(s[2], s[3], s[4]), 1);
             for (int n = 1; n <= 7; n++) {

