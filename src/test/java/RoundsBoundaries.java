@@ -208,7 +208,7 @@ final class RoundsBoundaries extends Boundary {
         holds(x, 0, 1, 1);
         due(x.crossed(0, 1, 40), 1);
         holds(x, 0, 0, 1);
-        // what was CROSSED once and is not any more does not count again: h is 2 at 2 or 3, or at 4 after 1 of 3
+        // what was CROSSED before does not count again: only rows that come to 2 right at n
         x.line(2, 0, 1);
         due(x.crossed(0, 1, 2), 1);
         holds(x, 0, 1, 4);
@@ -216,6 +216,7 @@ final class RoundsBoundaries extends Boundary {
         holds(x, 0, 1, 4);
         due(x.crossed(0, 1, 4), 1);
         holds(x, 0, 3, 16);
+        // nor does what was CROSSED at 1, not at 2, and is again at 3
         x.line(0, 2, 3);
         due(x.crossed(0, 1, 1), 1);
         holds(x, 0, 1, 2);
@@ -241,7 +242,7 @@ final class RoundsBoundaries extends Boundary {
         holds(x, 0, 1, 1);
         due(x.crossed(0, 2, 40), 1);
         holds(x, 0, 1, 1);
-        // just 1: 1 / 2 and 1 / 4 + 1 / 4
+        // just 1 at the first throw, and 1 more at the second
         x.line(0, 0, 1);
         due(x.crossed(0, 2, 1), 1);
         holds(x, 0, 1, 1);
