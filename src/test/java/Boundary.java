@@ -169,7 +169,10 @@ class Boundary {
         }
     }
 
-    /** All that can be seen of an object, in less than 300 calls; it is of no use for a test afterwards. */
+    /**
+     * What can be seen of an object in less than 300 calls; it is of no use for a test afterwards.
+     * Of wide numbers only the ends are shown, and with 16 SOURCES there is no way to look at the WEIGHTS but their number.
+     */
     private static List<String> portrait(TailBounds x) {
         List<String> seen = new ArrayList<>();
         for (int what = 0; what < 3; what++) {
