@@ -1,5 +1,4 @@
 import java.io.IOException;
-import java.nio.file.Path;
 
 /** Each sentence of the document that names a boundary case, as a test of its own that bears the sentence as its name. */
 public final class BoundaryTest {
@@ -7,12 +6,13 @@ public final class BoundaryTest {
     }
 
     public static void main(String[] args) throws IOException {
-        Boundary.readDocument(Path.of(System.getProperty("shared", "../shared"), "DOC.md"));
+        Checks.readDocument();
         TermsBoundaries.all();
         SourcesBoundaries.all();
         FractionsBoundaries.all();
         RoundsBoundaries.all();
-        if (!Boundary.end()) {
+        Checks.everyPromise();
+        if (!Checks.end("boundaries")) {
             System.exit(1);
         }
     }

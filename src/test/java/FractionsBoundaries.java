@@ -1,7 +1,7 @@
 import java.math.BigInteger;
 
 /** The boundary cases of promises 11 to 22: what PLACES hold. */
-final class FractionsBoundaries extends Boundary {
+final class FractionsBoundaries extends Checks {
     private FractionsBoundaries() {
     }
 
@@ -70,11 +70,11 @@ final class FractionsBoundaries extends Boundary {
 
     private static void setBad() {
         sentence("Promise 11: set", "below above 0): 1. BAD.");
-        refused(Boundary::some, BAD, y -> y.set(0, -1, 1), y -> y.set(0, MIN, 1), y -> y.set(0, 1, 0), y -> y.set(0, 0, 0), y -> y.set(0, 1, -1),
+        refused(Checks::some, BAD, y -> y.set(0, -1, 1), y -> y.set(0, MIN, 1), y -> y.set(0, 1, 0), y -> y.set(0, 0, 0), y -> y.set(0, 1, -1),
             y -> y.set(0, 1, MIN), y -> y.set(0, -1, -1), y -> y.set(0, MIN, MIN));
-        refused(Boundary::some, BAD, y -> y.set(-1, 1, 1), y -> y.set(16, 1, 1), y -> y.set(MIN, 1, 1), y -> y.set(MAX, 1, 1));
+        refused(Checks::some, BAD, y -> y.set(-1, 1, 1), y -> y.set(16, 1, 1), y -> y.set(MIN, 1, 1), y -> y.set(MAX, 1, 1));
         // a PLACE that held nothing holds nothing still
-        refused(Boundary::some, BAD, y -> y.set(1, -1, 1), y -> y.set(1, 1, 0));
+        refused(Checks::some, BAD, y -> y.set(1, -1, 1), y -> y.set(1, 1, 0));
     }
 
     // ---- promises 12 and 13
@@ -108,7 +108,7 @@ final class FractionsBoundaries extends Boundary {
 
     private static void meanBad() {
         sentence("Promise 12: mean", "A PLACE holds the MEAN: 1. BAD.");
-        refused(Boundary::some, BAD, y -> y.mean(-1, 0), y -> y.mean(16, 0), y -> y.mean(0, -1), y -> y.mean(0, 5), y -> y.mean(1, 5), y -> y.mean(0, 16),
+        refused(Checks::some, BAD, y -> y.mean(-1, 0), y -> y.mean(16, 0), y -> y.mean(0, -1), y -> y.mean(0, 5), y -> y.mean(1, 5), y -> y.mean(0, 16),
             y -> y.mean(MIN, 0), y -> y.mean(MAX, 0), y -> y.mean(0, MIN), y -> y.mean(0, MAX));
     }
 
@@ -141,8 +141,8 @@ final class FractionsBoundaries extends Boundary {
 
     private static void momentBad() {
         sentence("Promise 13: moment", "1. BAD; WIDE.");
-        refused(Boundary::some, BAD, y -> y.moment(0, 0, 3), y -> y.moment(0, 0, 1), y -> y.moment(0, 0, 5), y -> y.moment(1, 0, 0));
-        refused(Boundary::some, BAD, y -> y.moment(-1, 0, 2), y -> y.moment(16, 0, 4), y -> y.moment(0, -1, 2), y -> y.moment(0, 5, 4),
+        refused(Checks::some, BAD, y -> y.moment(0, 0, 3), y -> y.moment(0, 0, 1), y -> y.moment(0, 0, 5), y -> y.moment(1, 0, 0));
+        refused(Checks::some, BAD, y -> y.moment(-1, 0, 2), y -> y.moment(16, 0, 4), y -> y.moment(0, -1, 2), y -> y.moment(0, 5, 4),
             y -> y.moment(MIN, 0, 2), y -> y.moment(MAX, 0, 2), y -> y.moment(0, MIN, 4), y -> y.moment(0, MAX, 4));
         // BAD ahead of WIDE
         Setup wide = y -> wideMean(y, row(34, 54, 55), row(17, 10, 11), 2, 50);
@@ -176,9 +176,9 @@ final class FractionsBoundaries extends Boundary {
 
     private static void tailBad() {
         sentence("Promise 14: tail", "A PLACE holds a TAIL: 1. BAD.");
-        refused(Boundary::some, BAD, y -> y.tail(-1, 0, 1, 0), y -> y.tail(16, 0, 1, 0), y -> y.tail(0, -1, 1, 0), y -> y.tail(0, 5, 1, 0),
+        refused(Checks::some, BAD, y -> y.tail(-1, 0, 1, 0), y -> y.tail(16, 0, 1, 0), y -> y.tail(0, -1, 1, 0), y -> y.tail(0, 5, 1, 0),
             y -> y.tail(0, 0, -1, 0), y -> y.tail(0, 0, 121, 0), y -> y.tail(0, 0, 1, -1), y -> y.tail(0, 0, 1, 3));
-        refused(Boundary::some, BAD, y -> y.tail(MIN, MIN, MIN, MIN), y -> y.tail(MAX, MAX, MAX, MAX), y -> y.tail(1, 0, 121, 0), y -> y.tail(1, 0, 1, 3));
+        refused(Checks::some, BAD, y -> y.tail(MIN, MIN, MIN, MIN), y -> y.tail(MAX, MAX, MAX, MAX), y -> y.tail(1, 0, 121, 0), y -> y.tail(1, 0, 1, 3));
     }
 
     // ---- promise 15
@@ -198,11 +198,11 @@ final class FractionsBoundaries extends Boundary {
 
     private static void boundBad() {
         sentence("Promise 15: bound", "1. BAD; WIDE.");
-        refused(Boundary::some, BAD, y -> y.bound(-1, 0, 3, 0), y -> y.bound(16, 0, 3, 0), y -> y.bound(0, -1, 3, 0), y -> y.bound(0, 5, 3, 0),
+        refused(Checks::some, BAD, y -> y.bound(-1, 0, 3, 0), y -> y.bound(16, 0, 3, 0), y -> y.bound(0, -1, 3, 0), y -> y.bound(0, 5, 3, 0),
             y -> y.bound(0, 0, -1, 0), y -> y.bound(0, 0, 121, 0), y -> y.bound(0, 0, 3, -1), y -> y.bound(0, 0, 3, 5));
         // of KIND 4 the BASE stays, too
-        refused(Boundary::some, BAD, y -> y.bound(16, 0, 4, 4), y -> y.bound(0, 5, 4, 4), y -> y.bound(0, 0, -1, 4), y -> y.bound(0, 0, 121, 4));
-        refused(Boundary::some, BAD, y -> y.bound(MIN, 0, 3, 4), y -> y.bound(0, MAX, 3, 4), y -> y.bound(0, 0, MIN, 4), y -> y.bound(0, 0, 3, MAX), y -> y.bound(0, 0, 3, MIN));
+        refused(Checks::some, BAD, y -> y.bound(16, 0, 4, 4), y -> y.bound(0, 5, 4, 4), y -> y.bound(0, 0, -1, 4), y -> y.bound(0, 0, 121, 4));
+        refused(Checks::some, BAD, y -> y.bound(MIN, 0, 3, 4), y -> y.bound(0, MAX, 3, 4), y -> y.bound(0, 0, MIN, 4), y -> y.bound(0, 0, 3, MAX), y -> y.bound(0, 0, 3, MIN));
         Setup wide = y -> {
             wideMean(y, row(25, 40, 41), row(21, 1, 47), 23, 26);
             y.bound(0, 3, 64, 4);
@@ -386,15 +386,15 @@ final class FractionsBoundaries extends Boundary {
 
     private static void workBad() {
         sentence("Promise 17: work", "1. BAD; NOTHING; WIDE.");
-        refused(Boundary::some, BAD, y -> y.work(-1, 0, 0, 7), y -> y.work(4, 0, 0, 7), y -> y.work(MIN, 0, 0, 7), y -> y.work(MAX, 0, 0, 7));
+        refused(Checks::some, BAD, y -> y.work(-1, 0, 0, 7), y -> y.work(4, 0, 0, 7), y -> y.work(MIN, 0, 0, 7), y -> y.work(MAX, 0, 0, 7));
         for (int act = 0; act < 4; act++) {
             int a = act;
-            refused(Boundary::some, BAD, y -> y.work(a, -1, 0, 7), y -> y.work(a, 16, 0, 7), y -> y.work(a, 0, -1, 7), y -> y.work(a, 0, 16, 7),
+            refused(Checks::some, BAD, y -> y.work(a, -1, 0, 7), y -> y.work(a, 16, 0, 7), y -> y.work(a, 0, -1, 7), y -> y.work(a, 0, 16, 7),
                 y -> y.work(a, MIN, 0, 7), y -> y.work(a, MAX, 0, 7), y -> y.work(a, 0, MIN, 7), y -> y.work(a, 0, MAX, 7));
         }
         for (int act = 0; act < 3; act++) {
             int a = act;
-            refused(Boundary::some, BAD, y -> y.work(a, 0, 0, -1), y -> y.work(a, 0, 0, 16), y -> y.work(a, 0, 0, MIN), y -> y.work(a, 0, 0, MAX), y -> y.work(a, 0, 1, 16));
+            refused(Checks::some, BAD, y -> y.work(a, 0, 0, -1), y -> y.work(a, 0, 0, 16), y -> y.work(a, 0, 0, MIN), y -> y.work(a, 0, 0, MAX), y -> y.work(a, 0, 1, 16));
         }
     }
 
@@ -402,9 +402,9 @@ final class FractionsBoundaries extends Boundary {
         sentence("Promise 17: work", "NOTHING; WIDE.");
         for (int act = 0; act < 3; act++) {
             int a = act;
-            refused(Boundary::some, NOTHING, y -> y.work(a, 0, 1, 7), y -> y.work(a, 0, 7, 1), y -> y.work(a, 2, 1, 1), y -> y.work(a, 1, 1, 0));
+            refused(Checks::some, NOTHING, y -> y.work(a, 0, 1, 7), y -> y.work(a, 0, 7, 1), y -> y.work(a, 2, 1, 1), y -> y.work(a, 1, 1, 0));
         }
-        refused(Boundary::some, NOTHING, y -> y.work(3, 0, 1, 7), y -> y.work(3, 1, 1, 1), y -> y.work(3, 0, 14, 99));
+        refused(Checks::some, NOTHING, y -> y.work(3, 0, 1, 7), y -> y.work(3, 1, 1, 1), y -> y.work(3, 0, 14, 99));
         // PLACE p is not asked: it may hold nothing
         TailBounds x = new TailBounds();
         some(x);
@@ -469,9 +469,9 @@ final class FractionsBoundaries extends Boundary {
 
     private static void orderBadAndNothing() {
         sentence("Promise 18: order", "2 above. BAD; NOTHING.");
-        refused(Boundary::some, BAD, y -> y.order(-1, 0), y -> y.order(0, -1), y -> y.order(16, 0), y -> y.order(0, 16), y -> y.order(MIN, 0), y -> y.order(0, MAX),
+        refused(Checks::some, BAD, y -> y.order(-1, 0), y -> y.order(0, -1), y -> y.order(16, 0), y -> y.order(0, 16), y -> y.order(MIN, 0), y -> y.order(0, MAX),
             y -> y.order(1, 16), y -> y.order(16, 1), y -> y.order(1, -1));
-        refused(Boundary::some, NOTHING, y -> y.order(1, 0), y -> y.order(0, 1), y -> y.order(1, 1), y -> y.order(1, 2), y -> y.order(0, 14));
+        refused(Checks::some, NOTHING, y -> y.order(1, 0), y -> y.order(0, 1), y -> y.order(1, 1), y -> y.order(1, 2), y -> y.order(0, 14));
     }
 
     // ---- promises 19 and 20
@@ -495,9 +495,9 @@ final class FractionsBoundaries extends Boundary {
 
     private static void limbsBadAndNothing() {
         sentence("Promise 19: limbs", "BAD; NOTHING.");
-        refused(Boundary::some, BAD, y -> y.limbs(-1, 0), y -> y.limbs(16, 0), y -> y.limbs(MIN, 0), y -> y.limbs(MAX, 1), y -> y.limbs(0, -1), y -> y.limbs(0, 2),
+        refused(Checks::some, BAD, y -> y.limbs(-1, 0), y -> y.limbs(16, 0), y -> y.limbs(MIN, 0), y -> y.limbs(MAX, 1), y -> y.limbs(0, -1), y -> y.limbs(0, 2),
             y -> y.limbs(0, MIN), y -> y.limbs(0, MAX), y -> y.limbs(1, 2), y -> y.limbs(1, -1));
-        refused(Boundary::some, NOTHING, y -> y.limbs(1, 0), y -> y.limbs(1, 1), y -> y.limbs(14, 0));
+        refused(Checks::some, NOTHING, y -> y.limbs(1, 0), y -> y.limbs(1, 1), y -> y.limbs(14, 0));
     }
 
     private static void limbHighest() {
@@ -521,15 +521,15 @@ final class FractionsBoundaries extends Boundary {
 
     private static void limbBadAndNothing() {
         sentence("Promise 20: limb", "BAD: PLACE, part; NOTHING");
-        refused(Boundary::some, BAD, y -> y.limb(-1, 0, 0), y -> y.limb(16, 0, 0), y -> y.limb(MIN, 0, 0), y -> y.limb(MAX, 0, 0), y -> y.limb(0, -1, 0),
+        refused(Checks::some, BAD, y -> y.limb(-1, 0, 0), y -> y.limb(16, 0, 0), y -> y.limb(MIN, 0, 0), y -> y.limb(MAX, 0, 0), y -> y.limb(0, -1, 0),
             y -> y.limb(0, 2, 0), y -> y.limb(0, MIN, 0), y -> y.limb(0, MAX, 0), y -> y.limb(1, 2, 0), y -> y.limb(16, 0, -1), y -> y.limb(0, 2, 99));
-        refused(Boundary::some, NOTHING, y -> y.limb(1, 0, 0), y -> y.limb(1, 1, 0), y -> y.limb(1, 0, -1), y -> y.limb(1, 0, 32), y -> y.limb(1, 0, MAX));
+        refused(Checks::some, NOTHING, y -> y.limb(1, 0, 0), y -> y.limb(1, 1, 0), y -> y.limb(1, 0, -1), y -> y.limb(1, 0, 32), y -> y.limb(1, 0, MAX));
     }
 
     private static void limbNone() {
         sentence("Promise 20: limb", "NONE: there is none such.");
         // 2 / 3 lies in PLACE 0
-        refused(Boundary::some, NONE, y -> y.limb(0, 0, 1), y -> y.limb(0, 1, 1), y -> y.limb(0, 0, -1), y -> y.limb(0, 1, -1), y -> y.limb(0, 0, 32),
+        refused(Checks::some, NONE, y -> y.limb(0, 0, 1), y -> y.limb(0, 1, 1), y -> y.limb(0, 0, -1), y -> y.limb(0, 1, -1), y -> y.limb(0, 0, 32),
             y -> y.limb(0, 0, MIN), y -> y.limb(0, 0, MAX));
         TailBounds x = new TailBounds();
         allOnes(x, 0, 1, 10);
@@ -555,7 +555,7 @@ final class FractionsBoundaries extends Boundary {
             due(x.digits(0, n), ten);
             ten *= 10;
         }
-        refused(Boundary::some, BAD, y -> y.digits(0, -1), y -> y.digits(0, 19), y -> y.digits(0, MIN), y -> y.digits(0, MAX));
+        refused(Checks::some, BAD, y -> y.digits(0, -1), y -> y.digits(0, 19), y -> y.digits(0, MIN), y -> y.digits(0, MAX));
     }
 
     private static void digitsCutOff() {
@@ -632,8 +632,8 @@ final class FractionsBoundaries extends Boundary {
 
     private static void digitsBadAndNothing() {
         sentence("Promise 21: digits", "BAD; NOTHING; WIDE");
-        refused(Boundary::some, BAD, y -> y.digits(-1, 0), y -> y.digits(16, 0), y -> y.digits(MIN, 0), y -> y.digits(MAX, 0), y -> y.digits(1, 19), y -> y.digits(1, -1));
-        refused(Boundary::some, NOTHING, y -> y.digits(1, 0), y -> y.digits(1, 18), y -> y.digits(14, 9));
+        refused(Checks::some, BAD, y -> y.digits(-1, 0), y -> y.digits(16, 0), y -> y.digits(MIN, 0), y -> y.digits(MAX, 0), y -> y.digits(1, 19), y -> y.digits(1, -1));
+        refused(Checks::some, NOTHING, y -> y.digits(1, 0), y -> y.digits(1, 18), y -> y.digits(14, 9));
     }
 
     // ---- promise 22
@@ -657,8 +657,8 @@ final class FractionsBoundaries extends Boundary {
 
     private static void freeBad() {
         sentence("Promise 22: free", "0 if it did not. BAD.");
-        refused(Boundary::some, BAD, y -> y.free(-1), y -> y.free(16), y -> y.free(MIN), y -> y.free(MAX));
+        refused(Checks::some, BAD, y -> y.free(-1), y -> y.free(16), y -> y.free(MIN), y -> y.free(MAX));
         // where there was nothing, nothing changes either
-        refused(Boundary::some, 0, y -> y.free(1), y -> y.free(14));
+        refused(Checks::some, 0, y -> y.free(1), y -> y.free(14));
     }
 }

@@ -11,11 +11,6 @@ import java.util.regex.Pattern;
 
 /** The face of the class, and those rules of LANGUAGE.md that can be seen in the text. Run from the project's root. */
 public final class LanguageTest {
-    private static final String FACE = "weight(int)int wipe()int coins(int,int,int)int drawn(int,int,int)int sums(int)int both(int,int)int "
-        + "held(int,int,int)int source(int,int)int counted(int,int)int set(int,int,int)int mean(int,int)int moment(int,int,int)int "
-        + "tail(int,int,int,int)int bound(int,int,int,int)int base()int work(int,int,int,int)int order(int,int)int limbs(int,int)int "
-        + "limb(int,int,int)long digits(int,int)long free(int)int coin(int,int)int needed(int,int,int,int,int)int line(int,int,int)int "
-        + "crossed(int,int,int)int count(int)int";
     private static final String[] FORBIDDEN = {"\\bthrow\\b", "\\bthrows\\b", "\\btry\\b", "\\bcatch\\b", "\\bsynchronized\\b", "\\bassert\\b",
         "^(?!\\s*(case|default)\\b).*->", "::", "Exact\\b", "\\bBig(Integer|Decimal)\\b", "\\bSystem\\.(?!arraycopy\\b)", "\\bstatic\\s*\\{", "\\bprotected\\b",
         "\\bObject\\b", "\\bhashCode\\b", "\\bArrays\\.(?!copyOf\\b|copyOfRange\\b|fill\\b)", "\\bMath\\.(random|sqrt|pow|log|exp)",
@@ -25,7 +20,7 @@ public final class LanguageTest {
     private static int wrong = 0;
 
     public static void main(String[] args) throws Exception {
-        checkFace();
+        checkFace(Files.readString(Path.of(System.getProperty("shared", "../shared"), "DOC.md")));
         checkClasses();
         checkText(Files.readString(Path.of("src/main/java/TailBounds.java")));
         System.out.println(wrong == 0 ? "language: all as due" : "language: " + wrong + " not as due");
@@ -41,31 +36,54 @@ public final class LanguageTest {
         }
     }
 
-    private static void checkFace() throws Exception {
+    private static void checkFace(String document) throws Exception {
         Class<?> c = TailBounds.class;
         due(Modifier.isPublic(c.getModifiers()) && Modifier.isFinal(c.getModifiers()), "the class is not public and final");
         due(c.getDeclaredConstructors().length == 1 && c.getConstructors().length == 1, "not just the one constructor");
+        String face = document.replaceAll("(?s).*## The public face|## Terms.*", "");
         Set<String> open = new TreeSet<>();
         Set<String> names = new TreeSet<>();
         for (Method m : c.getDeclaredMethods()) {
             if (!Modifier.isPrivate(m.getModifiers())) {
                 String kinds = Arrays.toString(m.getParameterTypes()).replaceAll("[\\[\\] ]", "");
-                open.add(m.getName() + "(" + kinds + ")" + m.getReturnType());
+                open.add(Modifier.toString(m.getModifiers()) + " " + m.getReturnType() + " " + m.getName() + "(" + kinds + ")");
                 names.add(m.getName());
             }
         }
-        due(open.equals(new TreeSet<>(Arrays.asList(FACE.split(" ")))), "the open methods are " + open);
+        due(open.equals(methodsTold(face)), "the open methods are " + open + ", due are " + methodsTold(face));
         Set<String> constants = new TreeSet<>();
         for (Field f : c.getDeclaredFields()) {
             if (!Modifier.isPrivate(f.getModifiers())) {
-                constants.add(f.getName() + f.getInt(null));
+                constants.add(Modifier.toString(f.getModifiers()) + " " + f.getType() + " " + f.getName() + " = " + f.getInt(null));
             }
         }
-        due(constants.equals(Set.of("BAD-1", "NOTHING-2", "FULL-3", "WIDE-4", "NONE-5")), "the open constants are " + constants);
+        due(constants.equals(constantsTold(face)), "the open constants are " + constants + ", due are " + constantsTold(face));
         checkNames(c, names);
         for (Class<?> inner : c.getDeclaredClasses()) {
             checkNames(inner, names);
         }
+    }
+
+    private static Set<String> methodsTold(String face) {
+        Set<String> told = new TreeSet<>();
+        Matcher row = Pattern.compile("(public (?:int|long) \\w+)\\(([^)]*)\\);").matcher(face);
+        while (row.find()) {
+            told.add(row.group(1) + "(" + row.group(2).replaceAll(" \\w+(,) | \\w+$", "$1") + ")");
+        }
+        due(told.size() == 26, "the document's face was not understood");
+        return told;
+    }
+
+    private static Set<String> constantsTold(String face) {
+        Set<String> told = new TreeSet<>();
+        Matcher row = Pattern.compile("public static final int ([^;]*);").matcher(face);
+        while (row.find()) {
+            for (String constant : row.group(1).split(", ")) {
+                told.add("public static final int " + constant);
+            }
+        }
+        due(told.size() == 5, "the document's constants were not understood");
+        return told;
     }
 
     private static void checkNames(Class<?> c, Set<String> open) {

@@ -1,11 +1,12 @@
-/** For each promise of the document its ordinary inputs, its edges and its wrong inputs, reckoned by hand. */
-public final class PromisesTest {
-    private static final int BAD = -1, NOTHING = -2, FULL = -3, WIDE = -4, NONE = -5;
-    private static int wrong = 0;
-    private static int promise = 0;
-    private static int step = 0;
+import java.io.IOException;
 
-    public static void main(String[] args) {
+/** For each promise of the document its ordinary inputs, its edges and its wrong inputs, reckoned by hand. */
+public final class PromisesTest extends Checks {
+    private PromisesTest() {
+    }
+
+    public static void main(String[] args) throws IOException {
+        readDocument();
         aNewObject();
         weight();
         wipe();
@@ -33,57 +34,15 @@ public final class PromisesTest {
         line();
         crossed();
         count();
-        System.out.println(wrong == 0 ? "promises: all answers are as due" : "promises: " + wrong + " answers are not as due");
-        if (wrong != 0) {
+        everyPromise();
+        if (!end("promises")) {
             System.exit(1);
         }
     }
 
-    private static TailBounds begin(int number) {
-        promise = number;
-        step = 0;
+    private static TailBounds begin(String heading) {
+        heading(heading);
         return new TailBounds();
-    }
-
-    private static void due(long got, long want) {
-        step++;
-        if (got != want) {
-            wrong++;
-            System.out.println("promise " + promise + ", step " + step + ": answered " + got + ", due is " + want);
-        }
-    }
-
-    /** What a PLACE holds, told by its LIMBS. */
-    private static void holds(TailBounds x, int p, long above, long below) {
-        due(whole(x, p, 0), above);
-        due(whole(x, p, 1), below);
-    }
-
-    private static long whole(TailBounds x, int p, int part) {
-        int many = x.limbs(p, part);
-        long found = many < 0 || many > 2 ? Long.MIN_VALUE + many : 0;
-        for (int i = 0; i < many && many <= 2; i++) {
-            found |= x.limb(p, part, i) << (32 * i);
-        }
-        return found;
-    }
-
-    /** The COUNTS of a SOURCE, told by shares that it has at each value: they are times / total each. */
-    private static void counts(TailBounds x, int s, int total, int... times) {
-        due(x.source(s, 1), times.length - 1);
-        int sum = 0;
-        for (int v = times.length - 1; v >= 0; v--) {
-            sum += times[v];
-            due(x.tail(15, s, v, 0), 1);
-            int g = common(sum, total);
-            holds(x, 15, sum / g, total / g);
-        }
-        due(sum, total);
-        due(x.free(15), 1);
-    }
-
-    private static int common(int a, int b) {
-        return b == 0 ? a : common(b, a % b);
     }
 
     private static void fill(TailBounds x) {
@@ -93,7 +52,7 @@ public final class PromisesTest {
     }
 
     private static void aNewObject() {
-        TailBounds x = begin(1);
+        TailBounds x = begin("Promise 1: A new object");
         for (int what = 0; what < 3; what++) {
             due(x.count(what), 0);
         }
@@ -111,7 +70,7 @@ public final class PromisesTest {
     }
 
     private static void weight() {
-        TailBounds x = begin(2);
+        TailBounds x = begin("Promise 2: weight");
         due(x.weight(-1), BAD);
         due(x.weight(1001), BAD);
         due(x.weight(Integer.MIN_VALUE), BAD);
@@ -128,7 +87,7 @@ public final class PromisesTest {
     }
 
     private static void wipe() {
-        TailBounds x = begin(3);
+        TailBounds x = begin("Promise 3: wipe");
         due(x.wipe(), 0);
         x.weight(1);
         x.weight(2);
@@ -136,27 +95,27 @@ public final class PromisesTest {
         due(x.wipe(), 2);
         due(x.wipe(), 0);
         due(x.sums(2), BAD);
-        counts(x, 0, 9, 1, 4, 4);
+        counts(x, 0, 1, 4, 4);
         due(x.weight(5), 1);
         due(x.sums(1), 1);
-        counts(x, 1, 5, 5);
-        counts(x, 0, 9, 1, 4, 4);
+        counts(x, 1, 5);
+        counts(x, 0, 1, 4, 4);
     }
 
     private static void coins() {
-        TailBounds x = begin(4);
+        TailBounds x = begin("Promise 4: coins");
         due(x.coins(2, 1, 3), 0);
-        counts(x, 0, 9, 4, 4, 1);
+        counts(x, 0, 4, 4, 1);
         due(x.coins(3, 0, 5), 1);
-        counts(x, 1, 125, 125, 0, 0, 0);
+        counts(x, 1, 125, 0, 0, 0);
         due(x.coins(3, 5, 5), 2);
-        counts(x, 2, 125, 0, 0, 0, 125);
+        counts(x, 2, 0, 0, 0, 125);
         due(x.coins(0, 0, 1), 3);
-        counts(x, 3, 1, 1);
+        counts(x, 3, 1);
         due(x.coins(0, 60, 60), 4);
-        counts(x, 4, 1, 1);
+        counts(x, 4, 1);
         due(x.coins(4, 2, 4), 5);
-        counts(x, 5, 256, 16, 64, 96, 64, 16);
+        counts(x, 5, 16, 64, 96, 64, 16);
         due(x.coins(40, 60, 60), 6);
         due(x.source(6, 2), 237);
         int[][] bad = {{-1, 1, 2}, {41, 1, 2}, {1, 0, 0}, {1, 0, 61}, {1, -1, 2}, {1, 3, 2}, {1, 1, -1}};
@@ -171,15 +130,15 @@ public final class PromisesTest {
     }
 
     private static void drawn() {
-        TailBounds x = begin(5);
+        TailBounds x = begin("Promise 5: drawn");
         due(x.drawn(5, 2, 3), 0);
-        counts(x, 0, 10, 1, 6, 3, 0);
+        counts(x, 0, 1, 6, 3, 0);
         due(x.drawn(5, 4, 3), 1);
-        counts(x, 1, 10, 0, 0, 6, 4);
+        counts(x, 1, 0, 0, 6, 4);
         due(x.drawn(1, 0, 0), 2);
-        counts(x, 2, 1, 1);
+        counts(x, 2, 1);
         due(x.drawn(3, 3, 3), 3);
-        counts(x, 3, 1, 0, 0, 0, 1);
+        counts(x, 3, 0, 0, 0, 1);
         due(x.drawn(60, 60, 60), 4);
         due(x.source(4, 3), 60);
         due(x.drawn(60, 30, 30), 5);
@@ -196,28 +155,28 @@ public final class PromisesTest {
     }
 
     private static void sums() {
-        TailBounds x = begin(6);
+        TailBounds x = begin("Promise 6: sums");
         due(x.sums(0), BAD);
         x.weight(0);
         due(x.sums(2), BAD);
         x.weight(1);
         x.weight(2);
         due(x.sums(2), 0);
-        counts(x, 0, 9, 0, 0, 1, 4, 4);
+        counts(x, 0, 0, 0, 1, 4, 4);
         due(x.sums(0), 1);
-        counts(x, 1, 1, 1);
+        counts(x, 1, 1);
         due(x.sums(-1), BAD);
         due(x.sums(13), BAD);
         x.wipe();
         x.weight(7);
         due(x.sums(3), 2);
-        counts(x, 2, 343, 343);
+        counts(x, 2, 343);
         for (int i = 0; i < 7; i++) {
             x.weight(1000);
         }
         due(x.sums(12), 3);
         due(x.source(3, 1), 84);
-        counts(x, 0, 9, 0, 0, 1, 4, 4);
+        counts(x, 0, 0, 0, 1, 4, 4);
         fill(x);
         due(x.sums(1), FULL);
         due(x.sums(13), BAD);
@@ -226,14 +185,14 @@ public final class PromisesTest {
     }
 
     private static void both() {
-        TailBounds x = begin(7);
+        TailBounds x = begin("Promise 7: both");
         due(x.both(0, 0), BAD);
         due(x.coins(2, 1, 2), 0);
         due(x.drawn(5, 2, 3), 1);
         due(x.both(0, 1), 2);
-        counts(x, 2, 40, 1, 8, 16, 12, 3, 0);
+        counts(x, 2, 1, 8, 16, 12, 3, 0);
         due(x.both(0, 0), 3);
-        counts(x, 3, 16, 1, 4, 6, 4, 1);
+        counts(x, 3, 1, 4, 6, 4, 1);
         due(x.both(-1, 0), BAD);
         due(x.both(0, 4), BAD);
         due(x.both(Integer.MAX_VALUE, 0), BAD);
@@ -259,19 +218,19 @@ public final class PromisesTest {
     }
 
     private static void held() {
-        TailBounds x = begin(8);
+        TailBounds x = begin("Promise 8: held");
         due(x.held(0, 0, 0), BAD);
         due(x.coins(4, 1, 2), 0);
         due(x.held(0, 1, 3), 1);
-        counts(x, 1, 16, 0, 5, 6, 5, 0);
+        counts(x, 1, 0, 5, 6, 5, 0);
         due(x.held(0, 0, 4), 2);
-        counts(x, 2, 16, 1, 4, 6, 4, 1);
+        counts(x, 2, 1, 4, 6, 4, 1);
         due(x.held(0, 0, 0), 3);
-        counts(x, 3, 16, 16, 0, 0, 0, 0);
+        counts(x, 3, 16, 0, 0, 0, 0);
         due(x.held(0, 4, 4), 4);
-        counts(x, 4, 16, 0, 0, 0, 0, 16);
+        counts(x, 4, 0, 0, 0, 0, 16);
         due(x.held(1, 2, 4), 5);
-        counts(x, 5, 16, 0, 0, 11, 5, 0);
+        counts(x, 5, 0, 0, 11, 5, 0);
         int[][] bad = {{-1, 0, 0}, {6, 0, 0}, {0, -1, 2}, {0, 0, 5}, {0, 3, 2}, {0, 5, 5}};
         for (int[] b : bad) {
             due(x.held(b[0], b[1], b[2]), BAD);
@@ -282,7 +241,7 @@ public final class PromisesTest {
     }
 
     private static void source() {
-        TailBounds x = begin(9);
+        TailBounds x = begin("Promise 9: source");
         due(x.source(0, 0), BAD);
         x.weight(3);
         x.weight(0);
@@ -305,7 +264,7 @@ public final class PromisesTest {
     }
 
     private static void counted() {
-        TailBounds x = begin(10);
+        TailBounds x = begin("Promise 10: counted");
         due(x.counted(0, 0), BAD);
         x.coins(3, 2, 3);
         int[] rows = {27, 26, 20, 8, 0};
@@ -345,7 +304,7 @@ public final class PromisesTest {
     }
 
     private static void set() {
-        TailBounds x = begin(11);
+        TailBounds x = begin("Promise 11: set");
         due(x.set(0, 6, 4), 1);
         holds(x, 0, 3, 2);
         due(x.set(0, 0, 9), 1);
@@ -363,7 +322,7 @@ public final class PromisesTest {
     }
 
     private static void mean() {
-        TailBounds x = begin(12);
+        TailBounds x = begin("Promise 12: mean");
         due(x.mean(0, 0), BAD);
         x.coins(5, 2, 3);
         due(x.mean(0, 0), 1);
@@ -400,7 +359,7 @@ public final class PromisesTest {
     }
 
     private static void moment() {
-        TailBounds x = begin(13);
+        TailBounds x = begin("Promise 13: moment");
         x.coins(4, 1, 2);
         due(x.moment(0, 0, 2), 1);
         holds(x, 0, 1, 1);
@@ -433,15 +392,14 @@ public final class PromisesTest {
     }
 
     private static void tail() {
-        TailBounds x = begin(14);
+        TailBounds x = begin("Promise 14: tail");
         x.coins(4, 1, 2);
         int[][] above = {{1, 15, 11, 5, 1, 0}, {1, 5, 11, 15, 1, 1}, {2, 10, 16, 10, 2, 0}};
         int[][] below = {{1, 16, 16, 16, 16, 1}, {16, 16, 16, 16, 1, 1}, {16, 16, 16, 16, 16, 1}};
         for (int side = 0; side < 3; side++) {
             for (int k = 0; k < 6; k++) {
                 due(x.tail(3, 0, k, side), 1);
-                int g = common(above[side][k], below[side][k]);
-                holds(x, 3, above[side][k] / g, below[side][k] / g);
+                share(x, 3, above[side][k], below[side][k]);
             }
         }
         // the MEAN is 4 / 3: 0 is as far as 8 / 3, 1 nearest, 2 is farther than 1
@@ -449,8 +407,7 @@ public final class PromisesTest {
         int[] far = {16 + 8 + 1, 81, 16 + 24 + 8 + 1, 8 + 1, 1};
         for (int k = 0; k < far.length; k++) {
             due(x.tail(3, 1, k, 2), 1);
-            int g = common(far[k], 81);
-            holds(x, 3, far[k] / g, 81 / g);
+            share(x, 3, far[k], 81);
         }
         due(x.tail(3, 0, 120, 0), 1);
         holds(x, 3, 0, 1);
@@ -464,7 +421,7 @@ public final class PromisesTest {
     }
 
     private static void bound() {
-        TailBounds x = begin(15);
+        TailBounds x = begin("Promise 15: bound");
         x.coins(4, 1, 2);
         long[][] at4 = {{1, 2}, {1, 4}, {5, 32}, {1, 5}, {16, 81}};
         for (int kind = 0; kind < 5; kind++) {
@@ -517,7 +474,7 @@ public final class PromisesTest {
     }
 
     private static void base() {
-        TailBounds x = begin(16);
+        TailBounds x = begin("Promise 16: base");
         due(x.base(), 0);
         x.coins(10, 1, 2);
         x.coins(40, 1, 2);
@@ -548,7 +505,7 @@ public final class PromisesTest {
     }
 
     private static void work() {
-        TailBounds x = begin(17);
+        TailBounds x = begin("Promise 17: work");
         x.set(0, 1, 6);
         x.set(1, 3, 10);
         due(x.work(0, 2, 0, 1), 1);
@@ -620,7 +577,7 @@ public final class PromisesTest {
     }
 
     private static void order() {
-        TailBounds x = begin(18);
+        TailBounds x = begin("Promise 18: order");
         x.set(0, 2, 3);
         x.set(1, 5, 7);
         x.set(2, 10, 14);
@@ -643,7 +600,7 @@ public final class PromisesTest {
     }
 
     private static void limbs() {
-        TailBounds x = begin(19);
+        TailBounds x = begin("Promise 19: limbs");
         due(x.limbs(0, 0), NOTHING);
         due(x.limbs(0, 2), BAD);
         due(x.limbs(0, -1), BAD);
@@ -663,7 +620,7 @@ public final class PromisesTest {
     }
 
     private static void limb() {
-        TailBounds x = begin(20);
+        TailBounds x = begin("Promise 20: limb");
         due(x.limb(0, 0, 0), NOTHING);
         due(x.limb(0, 0, -1), NOTHING);
         due(x.limb(0, 2, 0), BAD);
@@ -689,7 +646,7 @@ public final class PromisesTest {
     }
 
     private static void digits() {
-        TailBounds x = begin(21);
+        TailBounds x = begin("Promise 21: digits");
         due(x.digits(0, 0), NOTHING);
         due(x.digits(0, 19), BAD);
         due(x.digits(0, -1), BAD);
@@ -736,7 +693,7 @@ public final class PromisesTest {
     }
 
     private static void free() {
-        TailBounds x = begin(22);
+        TailBounds x = begin("Promise 22: free");
         due(x.free(0), 0);
         x.set(0, 1, 2);
         x.set(15, 1, 2);
@@ -753,7 +710,7 @@ public final class PromisesTest {
     }
 
     private static void coin() {
-        TailBounds x = begin(23);
+        TailBounds x = begin("Promise 23: coin");
         due(x.coin(2, 3), 1);
         x.line(0, 1, 1);
         x.crossed(0, 0, 1);
@@ -776,7 +733,7 @@ public final class PromisesTest {
     }
 
     private static void needed() {
-        TailBounds x = begin(24);
+        TailBounds x = begin("Promise 24: needed");
         // a half, width 1 / 2: 2 of 2^n rows are as far
         due(x.needed(0, 50, 1, 1024, 0), 11);
         due(x.needed(0, 50, 1, 1025, 0), 12);
@@ -805,7 +762,7 @@ public final class PromisesTest {
     }
 
     private static void line() {
-        TailBounds x = begin(25);
+        TailBounds x = begin("Promise 25: line");
         due(x.line(0, 0, 1), 1);
         x.crossed(0, 1, 1);
         holds(x, 0, 1, 1);
@@ -828,7 +785,7 @@ public final class PromisesTest {
     }
 
     private static void crossed() {
-        TailBounds x = begin(26);
+        TailBounds x = begin("Promise 26: crossed");
         int[][] setups = {{1, 2, 0, 1, 2}, {1, 3, 1, 1, 3}, {2, 3, 2, 1, 2}, {3, 4, 1, 3, 5}, {0, 2, 0, 1, 7}, {2, 2, 3, 1, 4}, {1, 2, 0, 0, 9}};
         for (int[] s : setups) {
             x = new TailBounds();
@@ -872,13 +829,12 @@ public final class PromisesTest {
         int[] want = {atSome, firstAtN, Math.min(added, rows)};
         for (int how = 0; how < 3; how++) {
             due(x.crossed(5, how, n), 1);
-            int g = common(want[how], rows);
-            holds(x, 5, want[how] / g, rows / g);
+            share(x, 5, want[how], rows);
         }
     }
 
     private static void count() {
-        TailBounds x = begin(27);
+        TailBounds x = begin("Promise 27: count");
         x.weight(1);
         x.weight(1);
         x.weight(1);

@@ -1,7 +1,7 @@
 import java.math.BigInteger;
 
 /** The boundary cases of promises 23 to 27: the coin, rounds that are needed, the line, and how many there are. */
-final class RoundsBoundaries extends Boundary {
+final class RoundsBoundaries extends Checks {
     private RoundsBoundaries() {
     }
 
@@ -46,9 +46,9 @@ final class RoundsBoundaries extends Boundary {
 
     private static void coinBad() {
         sentence("Promise 23: coin", "not in lowest terms): 1. BAD.");
-        refused(Boundary::some, BAD, y -> y.coin(0, 0), y -> y.coin(1, 0), y -> y.coin(0, -1), y -> y.coin(0, 61), y -> y.coin(1, 61), y -> y.coin(0, MIN), y -> y.coin(0, MAX));
-        refused(Boundary::some, BAD, y -> y.coin(-1, 1), y -> y.coin(2, 1), y -> y.coin(-1, 60), y -> y.coin(61, 60), y -> y.coin(61, 61), y -> y.coin(MIN, 60), y -> y.coin(MAX, 60));
-        refused(Boundary::some, BAD, y -> y.coin(MIN, MIN), y -> y.coin(MAX, MAX), y -> y.coin(-1, -1));
+        refused(Checks::some, BAD, y -> y.coin(0, 0), y -> y.coin(1, 0), y -> y.coin(0, -1), y -> y.coin(0, 61), y -> y.coin(1, 61), y -> y.coin(0, MIN), y -> y.coin(0, MAX));
+        refused(Checks::some, BAD, y -> y.coin(-1, 1), y -> y.coin(2, 1), y -> y.coin(-1, 60), y -> y.coin(61, 60), y -> y.coin(61, 61), y -> y.coin(MIN, 60), y -> y.coin(MAX, 60));
+        refused(Checks::some, BAD, y -> y.coin(MIN, MIN), y -> y.coin(MAX, MAX), y -> y.coin(-1, -1));
         refused(y -> y.count(0), BAD, y -> y.coin(0, 0), y -> y.coin(3, 2), y -> y.coin(1, 61));
     }
 
@@ -114,13 +114,13 @@ final class RoundsBoundaries extends Boundary {
 
     private static void neededBad() {
         sentence("Promise 24: needed", "BAD: how, w not 1 .. 100, u not 0 .. 1000000, v not 1 .. 1000000, which");
-        refused(Boundary::some, BAD, y -> y.needed(-1, 1, 1, 1, 0), y -> y.needed(2, 1, 1, 1, 0), y -> y.needed(MIN, 1, 1, 1, 0), y -> y.needed(MAX, 1, 1, 1, 0));
+        refused(Checks::some, BAD, y -> y.needed(-1, 1, 1, 1, 0), y -> y.needed(2, 1, 1, 1, 0), y -> y.needed(MIN, 1, 1, 1, 0), y -> y.needed(MAX, 1, 1, 1, 0));
         for (int how = 0; how < 2; how++) {
             int h = how;
-            refused(Boundary::some, BAD, y -> y.needed(h, 0, 1, 1, 0), y -> y.needed(h, 101, 1, 1, 0), y -> y.needed(h, -1, 1, 1, 0), y -> y.needed(h, MIN, 1, 1, 0), y -> y.needed(h, MAX, 1, 1, 0));
-            refused(Boundary::some, BAD, y -> y.needed(h, 1, -1, 1, 0), y -> y.needed(h, 1, 1000001, 1, 0), y -> y.needed(h, 1, MIN, 1, 0), y -> y.needed(h, 1, MAX, 1, 0));
-            refused(Boundary::some, BAD, y -> y.needed(h, 1, 1, 0, 0), y -> y.needed(h, 1, 1, 1000001, 0), y -> y.needed(h, 1, 1, -1, 0), y -> y.needed(h, 1, 1, MIN, 0), y -> y.needed(h, 1, 1, MAX, 0));
-            refused(Boundary::some, BAD, y -> y.needed(h, 1, 1, 1, -1), y -> y.needed(h, 1, 1, 1, 2), y -> y.needed(h, 1, 1, 1, MIN), y -> y.needed(h, 1, 1, 1, MAX));
+            refused(Checks::some, BAD, y -> y.needed(h, 0, 1, 1, 0), y -> y.needed(h, 101, 1, 1, 0), y -> y.needed(h, -1, 1, 1, 0), y -> y.needed(h, MIN, 1, 1, 0), y -> y.needed(h, MAX, 1, 1, 0));
+            refused(Checks::some, BAD, y -> y.needed(h, 1, -1, 1, 0), y -> y.needed(h, 1, 1000001, 1, 0), y -> y.needed(h, 1, MIN, 1, 0), y -> y.needed(h, 1, MAX, 1, 0));
+            refused(Checks::some, BAD, y -> y.needed(h, 1, 1, 0, 0), y -> y.needed(h, 1, 1, 1000001, 0), y -> y.needed(h, 1, 1, -1, 0), y -> y.needed(h, 1, 1, MIN, 0), y -> y.needed(h, 1, 1, MAX, 0));
+            refused(Checks::some, BAD, y -> y.needed(h, 1, 1, 1, -1), y -> y.needed(h, 1, 1, 1, 2), y -> y.needed(h, 1, 1, 1, MIN), y -> y.needed(h, 1, 1, 1, MAX));
         }
     }
 
@@ -134,7 +134,7 @@ final class RoundsBoundaries extends Boundary {
             due(x.needed(1, 50, 1, 41, which), NONE);
             due(x.needed(1, 1, 999999, 1000000, which), NONE);
         }
-        refused(Boundary::some, NONE, y -> y.needed(0, 1, 0, 1, 0), y -> y.needed(1, 1, 0, 1, 1));
+        refused(Checks::some, NONE, y -> y.needed(0, 1, 0, 1, 0), y -> y.needed(1, 1, 0, 1, 1));
     }
 
     // ---- promise 25
@@ -157,9 +157,9 @@ final class RoundsBoundaries extends Boundary {
 
     private static void lineBad() {
         sentence("Promise 25: line", "e 1 .. 60): 1. BAD.");
-        refused(Boundary::some, BAD, y -> y.line(-1, 1, 1), y -> y.line(61, 1, 1), y -> y.line(MIN, 1, 1), y -> y.line(MAX, 1, 1));
-        refused(Boundary::some, BAD, y -> y.line(0, -1, 1), y -> y.line(0, 61, 1), y -> y.line(0, MIN, 1), y -> y.line(0, MAX, 1));
-        refused(Boundary::some, BAD, y -> y.line(0, 0, 0), y -> y.line(0, 0, -1), y -> y.line(0, 0, 61), y -> y.line(0, 0, MIN), y -> y.line(0, 0, MAX));
+        refused(Checks::some, BAD, y -> y.line(-1, 1, 1), y -> y.line(61, 1, 1), y -> y.line(MIN, 1, 1), y -> y.line(MAX, 1, 1));
+        refused(Checks::some, BAD, y -> y.line(0, -1, 1), y -> y.line(0, 61, 1), y -> y.line(0, MIN, 1), y -> y.line(0, MAX, 1));
+        refused(Checks::some, BAD, y -> y.line(0, 0, 0), y -> y.line(0, 0, -1), y -> y.line(0, 0, 61), y -> y.line(0, 0, MIN), y -> y.line(0, 0, MAX));
         refused(y -> y.count(0), BAD, y -> y.line(0, 0, 0), y -> y.line(61, 0, 1), y -> y.line(0, 61, 1));
     }
 
@@ -252,9 +252,9 @@ final class RoundsBoundaries extends Boundary {
 
     private static void crossedBad() {
         sentence("Promise 26: crossed", "if that is more: 1. BAD.");
-        refused(Boundary::some, BAD, y -> y.crossed(-1, 0, 1), y -> y.crossed(16, 0, 1), y -> y.crossed(MIN, 0, 1), y -> y.crossed(MAX, 0, 1));
-        refused(Boundary::some, BAD, y -> y.crossed(0, -1, 1), y -> y.crossed(0, 3, 1), y -> y.crossed(0, MIN, 1), y -> y.crossed(0, MAX, 1));
-        refused(Boundary::some, BAD, y -> y.crossed(0, 0, 0), y -> y.crossed(0, 0, 41), y -> y.crossed(0, 1, -1), y -> y.crossed(0, 2, MIN), y -> y.crossed(1, 0, MAX));
+        refused(Checks::some, BAD, y -> y.crossed(-1, 0, 1), y -> y.crossed(16, 0, 1), y -> y.crossed(MIN, 0, 1), y -> y.crossed(MAX, 0, 1));
+        refused(Checks::some, BAD, y -> y.crossed(0, -1, 1), y -> y.crossed(0, 3, 1), y -> y.crossed(0, MIN, 1), y -> y.crossed(0, MAX, 1));
+        refused(Checks::some, BAD, y -> y.crossed(0, 0, 0), y -> y.crossed(0, 0, 41), y -> y.crossed(0, 1, -1), y -> y.crossed(0, 2, MIN), y -> y.crossed(1, 0, MAX));
     }
 
     // ---- promise 27
@@ -308,6 +308,6 @@ final class RoundsBoundaries extends Boundary {
 
     private static void countBad() {
         sentence("Promise 27: count", "2 PLACES that hold something. BAD.");
-        refused(Boundary::some, BAD, y -> y.count(-1), y -> y.count(3), y -> y.count(MIN), y -> y.count(MAX));
+        refused(Checks::some, BAD, y -> y.count(-1), y -> y.count(3), y -> y.count(MIN), y -> y.count(MAX));
     }
 }

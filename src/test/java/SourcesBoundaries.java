@@ -1,7 +1,7 @@
 import java.math.BigInteger;
 
 /** The boundary cases of promises 1 to 10: a new object, weights and sources. */
-final class SourcesBoundaries extends Boundary {
+final class SourcesBoundaries extends Checks {
     private SourcesBoundaries() {
     }
 
@@ -103,7 +103,7 @@ final class SourcesBoundaries extends Boundary {
         due(x.weight(999), 4);
         due(x.sums(1), 0);
         counts(x, 0, 0, 1000, 1, 999);
-        refused(Boundary::some, BAD, y -> y.weight(-1), y -> y.weight(1001), y -> y.weight(MIN), y -> y.weight(MAX));
+        refused(Checks::some, BAD, y -> y.weight(-1), y -> y.weight(1001), y -> y.weight(MIN), y -> y.weight(MAX));
         refused(y -> y.count(1), BAD, y -> y.weight(-1), y -> y.weight(1001));
     }
 
@@ -133,7 +133,7 @@ final class SourcesBoundaries extends Boundary {
         due(x.count(1), 8);
         due(x.sums(1), 0);
         counts(x, 0, 0, 0, 0, 0, 0, 0, 0, 1000);
-        refused(Boundary::allWeights, FULL, y -> y.weight(1), y -> y.weight(0), y -> y.weight(1000));
+        refused(Checks::allWeights, FULL, y -> y.weight(1), y -> y.weight(0), y -> y.weight(1000));
     }
 
     // ---- promise 3
@@ -189,8 +189,8 @@ final class SourcesBoundaries extends Boundary {
         due(x.coins(-1, 0, 1), BAD);
         due(x.count(0), 16);
         due(x.source(15, 1), 40);
-        refused(Boundary::allSources, FULL, y -> y.coins(0, 0, 1), y -> y.coins(40, 60, 60));
-        refused(Boundary::allSources, BAD, y -> y.coins(41, 1, 2), y -> y.coins(1, 3, 2), y -> y.coins(1, 1, 61));
+        refused(Checks::allSources, FULL, y -> y.coins(0, 0, 1), y -> y.coins(40, 60, 60));
+        refused(Checks::allSources, BAD, y -> y.coins(41, 1, 2), y -> y.coins(1, 3, 2), y -> y.coins(1, 1, 61));
     }
 
     private static void drawnNumbers() {
@@ -205,8 +205,8 @@ final class SourcesBoundaries extends Boundary {
         due(x.drawn(0, 0, 0), BAD);
         due(x.count(0), 16);
         due(x.source(15, 1), 60);
-        refused(Boundary::allSources, FULL, y -> y.drawn(1, 0, 0), y -> y.drawn(60, 60, 60));
-        refused(Boundary::allSources, BAD, y -> y.drawn(61, 1, 1), y -> y.drawn(3, 4, 1), y -> y.drawn(3, 1, 4));
+        refused(Checks::allSources, FULL, y -> y.drawn(1, 0, 0), y -> y.drawn(60, 60, 60));
+        refused(Checks::allSources, BAD, y -> y.drawn(61, 1, 1), y -> y.drawn(3, 4, 1), y -> y.drawn(3, 1, 4));
     }
 
     // ---- promise 6
@@ -257,7 +257,7 @@ final class SourcesBoundaries extends Boundary {
         x.weight(1);
         due(x.sums(1), FULL);
         due(x.count(0), 16);
-        refused(Boundary::allSources, FULL, y -> y.sums(0), y -> y.sums(12));
+        refused(Checks::allSources, FULL, y -> y.sums(0), y -> y.sums(12));
     }
 
     // ---- promise 7
@@ -283,7 +283,7 @@ final class SourcesBoundaries extends Boundary {
         // the highest VALUE has the COUNT 1, of a TOTAL of 2^72
         due(x.tail(0, 3, 120, 0), 1);
         holds(x, 0, BigInteger.ONE, BigInteger.TWO.pow(72));
-        refused(Boundary::some, BAD, y -> y.both(5, 0), y -> y.both(0, 5), y -> y.both(-1, 0), y -> y.both(0, -1));
+        refused(Checks::some, BAD, y -> y.both(5, 0), y -> y.both(0, 5), y -> y.both(-1, 0), y -> y.both(0, -1));
     }
 
     private static void bothFullAndWide() {
@@ -294,7 +294,7 @@ final class SourcesBoundaries extends Boundary {
         };
         refused(full, FULL, y -> y.both(4, 4), y -> y.both(2, 3), y -> y.both(15, 15));
         refused(full, BAD, y -> y.both(0, 16), y -> y.both(-1, 0));
-        refused(Boundary::wideTotal, WIDE, y -> y.both(2, 3), y -> y.both(2, 2), y -> y.both(0, 0));
+        refused(Checks::wideTotal, WIDE, y -> y.both(2, 3), y -> y.both(2, 2), y -> y.both(0, 0));
         TailBounds x = new TailBounds();
         wideTotal(x);
         due(x.both(2, 3), WIDE);
@@ -335,8 +335,8 @@ final class SourcesBoundaries extends Boundary {
         due(y.held(2, 51, 51), 6);
         due(y.source(6, 2), 256);
         due(y.source(6, 3), 51);
-        refused(Boundary::allSources, FULL, z -> z.held(0, 0, 4), z -> z.held(15, 0, 0));
-        refused(Boundary::allSources, BAD, z -> z.held(0, 0, 5), z -> z.held(0, 4, 3), z -> z.held(16, 0, 0));
+        refused(Checks::allSources, FULL, z -> z.held(0, 0, 4), z -> z.held(15, 0, 0));
+        refused(Checks::allSources, BAD, z -> z.held(0, 0, 5), z -> z.held(0, 4, 3), z -> z.held(16, 0, 0));
     }
 
     // ---- promise 9
@@ -409,8 +409,8 @@ final class SourcesBoundaries extends Boundary {
 
     private static void sourceBad() {
         sentence("Promise 9: source", "3 how many of its COUNTS are 0. BAD.");
-        refused(Boundary::some, BAD, y -> y.source(0, -1), y -> y.source(0, 4), y -> y.source(0, MIN), y -> y.source(0, MAX));
-        refused(Boundary::some, BAD, y -> y.source(-1, 0), y -> y.source(5, 0), y -> y.source(16, 0), y -> y.source(MIN, 3), y -> y.source(MAX, 3));
+        refused(Checks::some, BAD, y -> y.source(0, -1), y -> y.source(0, 4), y -> y.source(0, MIN), y -> y.source(0, MAX));
+        refused(Checks::some, BAD, y -> y.source(-1, 0), y -> y.source(5, 0), y -> y.source(16, 0), y -> y.source(MIN, 3), y -> y.source(MAX, 3));
         TailBounds x = new TailBounds();
         allSources(x);
         due(x.source(15, 0), 0);
@@ -459,10 +459,10 @@ final class SourcesBoundaries extends Boundary {
         due(x.counted(0, 3), 1);
         due(x.counted(0, 4), 0);
         due(x.counted(0, 120), 0);
-        refused(Boundary::some, BAD, y -> y.counted(0, -1), y -> y.counted(0, 121), y -> y.counted(0, MIN), y -> y.counted(0, MAX));
-        refused(Boundary::some, BAD, y -> y.counted(-1, 0), y -> y.counted(5, 0), y -> y.counted(16, 0), y -> y.counted(MIN, 0), y -> y.counted(MAX, 0));
+        refused(Checks::some, BAD, y -> y.counted(0, -1), y -> y.counted(0, 121), y -> y.counted(0, MIN), y -> y.counted(0, MAX));
+        refused(Checks::some, BAD, y -> y.counted(-1, 0), y -> y.counted(5, 0), y -> y.counted(16, 0), y -> y.counted(MIN, 0), y -> y.counted(MAX, 0));
         // also where there would be none
-        refused(Boundary::some, BAD, y -> y.counted(1, -1), y -> y.counted(1, 121), y -> y.counted(3, 121), y -> y.counted(4, 121));
+        refused(Checks::some, BAD, y -> y.counted(1, -1), y -> y.counted(1, 121), y -> y.counted(3, 121), y -> y.counted(4, 121));
     }
 
     private static void countedOtherKinds() {

@@ -1,7 +1,7 @@
 import java.math.BigInteger;
 
 /** The boundary cases that 'What it is' and 'Terms' name, ahead of the promises: a test for each sentence. */
-final class TermsBoundaries extends Boundary {
+final class TermsBoundaries extends Checks {
     private TermsBoundaries() {
     }
 
@@ -272,7 +272,7 @@ final class TermsBoundaries extends Boundary {
             share(x, p, p, 7);
         }
         for (int p : new int[] {-1, 16, MIN, MAX}) {
-            refused(Boundary::some, BAD, y -> y.set(p, 1, 2), y -> y.mean(p, 0), y -> y.moment(p, 0, 2), y -> y.tail(p, 0, 1, 0),
+            refused(Checks::some, BAD, y -> y.set(p, 1, 2), y -> y.mean(p, 0), y -> y.moment(p, 0, 2), y -> y.tail(p, 0, 1, 0),
                 y -> y.bound(p, 0, 3, 4), y -> y.work(0, p, 0, 7), y -> y.work(0, 0, p, 7), y -> y.work(0, 0, 7, p), y -> y.work(3, p, 0, 0),
                 y -> y.work(3, 0, p, 0), y -> y.order(p, 0), y -> y.order(0, p), y -> y.limbs(p, 0), y -> y.limb(p, 0, 0), y -> y.digits(p, 0),
                 y -> y.free(p), y -> y.crossed(p, 0, 1));
@@ -326,9 +326,9 @@ final class TermsBoundaries extends Boundary {
         due(x.both(0, 14), 15);
         due(x.count(0), 16);
         due(x.source(15, 0), 3);
-        refused(Boundary::allSources, FULL, y -> y.coins(2, 1, 2), y -> y.drawn(2, 1, 1), y -> y.sums(1), y -> y.both(0, 0), y -> y.held(0, 1, 1));
+        refused(Checks::allSources, FULL, y -> y.coins(2, 1, 2), y -> y.drawn(2, 1, 1), y -> y.sums(1), y -> y.both(0, 0), y -> y.held(0, 1, 1));
         for (int s : new int[] {-1, 5, 15, 16, MIN, MAX}) {
-            refused(Boundary::some, BAD, y -> y.both(s, 0), y -> y.both(0, s), y -> y.held(s, 0, 0), y -> y.source(s, 0), y -> y.counted(s, 0),
+            refused(Checks::some, BAD, y -> y.both(s, 0), y -> y.both(0, s), y -> y.held(s, 0, 0), y -> y.source(s, 0), y -> y.counted(s, 0),
                 y -> y.mean(0, s), y -> y.moment(0, s, 2), y -> y.tail(0, s, 1, 0), y -> y.bound(0, s, 1, 0));
         }
     }
@@ -347,7 +347,7 @@ final class TermsBoundaries extends Boundary {
         due(x.coins(4, 17, 35), 8);
         due(x.both(7, 8), 9);
         due(x.source(9, 2), 256);
-        refused(Boundary::wideTotal, WIDE, y -> y.both(2, 3), y -> y.both(3, 2), y -> y.both(2, 1), y -> y.both(0, 0));
+        refused(Checks::wideTotal, WIDE, y -> y.both(2, 3), y -> y.both(3, 2), y -> y.both(2, 1), y -> y.both(0, 0));
         // the least TOTAL is 1
         due(x.source(4, 2), 1);
         due(x.tail(0, 2, 0, 0), 1);
@@ -412,10 +412,10 @@ final class TermsBoundaries extends Boundary {
         counts(x, 4, 60, 0);
         due(x.coins(1, 60, 60), 5);
         counts(x, 5, 0, 60);
-        refused(Boundary::some, BAD, y -> y.coins(-1, 1, 2), y -> y.coins(41, 1, 2), y -> y.coins(MIN, 1, 2), y -> y.coins(MAX, 1, 2));
-        refused(Boundary::some, BAD, y -> y.coins(1, 0, 0), y -> y.coins(1, 0, 61), y -> y.coins(1, 0, -1), y -> y.coins(1, 0, MIN), y -> y.coins(1, 0, MAX));
-        refused(Boundary::some, BAD, y -> y.coins(1, -1, 2), y -> y.coins(1, 3, 2), y -> y.coins(1, 61, 60), y -> y.coins(1, MIN, 60), y -> y.coins(1, MAX, 60));
-        refused(Boundary::some, BAD, y -> y.coins(0, 2, 1), y -> y.coins(0, 1, 0), y -> y.coins(0, -1, -1), y -> y.coins(MAX, MAX, MAX));
+        refused(Checks::some, BAD, y -> y.coins(-1, 1, 2), y -> y.coins(41, 1, 2), y -> y.coins(MIN, 1, 2), y -> y.coins(MAX, 1, 2));
+        refused(Checks::some, BAD, y -> y.coins(1, 0, 0), y -> y.coins(1, 0, 61), y -> y.coins(1, 0, -1), y -> y.coins(1, 0, MIN), y -> y.coins(1, 0, MAX));
+        refused(Checks::some, BAD, y -> y.coins(1, -1, 2), y -> y.coins(1, 3, 2), y -> y.coins(1, 61, 60), y -> y.coins(1, MIN, 60), y -> y.coins(1, MAX, 60));
+        refused(Checks::some, BAD, y -> y.coins(0, 2, 1), y -> y.coins(0, 1, 0), y -> y.coins(0, -1, -1), y -> y.coins(MAX, MAX, MAX));
     }
 
     private static void drawnRanges() {
@@ -439,9 +439,9 @@ final class TermsBoundaries extends Boundary {
         due(x.source(5, 3), 0);
         due(x.tail(0, 5, 30, 0), 1);
         holds(x, 0, 1, 118264581564861424L);
-        refused(Boundary::some, BAD, y -> y.drawn(0, 0, 0), y -> y.drawn(-1, 0, 0), y -> y.drawn(61, 1, 1), y -> y.drawn(MIN, 0, 0), y -> y.drawn(MAX, 1, 1));
-        refused(Boundary::some, BAD, y -> y.drawn(5, -1, 1), y -> y.drawn(5, 6, 1), y -> y.drawn(60, 61, 1), y -> y.drawn(5, MIN, 1), y -> y.drawn(5, MAX, 1));
-        refused(Boundary::some, BAD, y -> y.drawn(5, 1, -1), y -> y.drawn(5, 1, 6), y -> y.drawn(60, 1, 61), y -> y.drawn(5, 1, MIN), y -> y.drawn(5, 1, MAX));
+        refused(Checks::some, BAD, y -> y.drawn(0, 0, 0), y -> y.drawn(-1, 0, 0), y -> y.drawn(61, 1, 1), y -> y.drawn(MIN, 0, 0), y -> y.drawn(MAX, 1, 1));
+        refused(Checks::some, BAD, y -> y.drawn(5, -1, 1), y -> y.drawn(5, 6, 1), y -> y.drawn(60, 61, 1), y -> y.drawn(5, MIN, 1), y -> y.drawn(5, MAX, 1));
+        refused(Checks::some, BAD, y -> y.drawn(5, 1, -1), y -> y.drawn(5, 1, 6), y -> y.drawn(60, 1, 61), y -> y.drawn(5, 1, MIN), y -> y.drawn(5, 1, MAX));
     }
 
     private static void sumsRanges() {
@@ -457,7 +457,7 @@ final class TermsBoundaries extends Boundary {
         due(x.source(2, 1), 12);
         due(x.tail(0, 2, 12, 0), 1);
         holds(x, 0, 531441, 244140625);
-        refused(Boundary::some, BAD, y -> y.sums(-1), y -> y.sums(13), y -> y.sums(MIN), y -> y.sums(MAX));
+        refused(Checks::some, BAD, y -> y.sums(-1), y -> y.sums(13), y -> y.sums(MIN), y -> y.sums(MAX));
     }
 
     private static void sumsAtLeastOneWeight() {
@@ -576,7 +576,7 @@ final class TermsBoundaries extends Boundary {
         due(x.held(5, 0, 0), 6);
         counts(x, 6, 1);
         // SOURCE 0 of some() has VALUES to 4
-        refused(Boundary::some, BAD, y -> y.held(0, -1, 4), y -> y.held(0, -1, -1), y -> y.held(0, 0, 5), y -> y.held(0, 5, 5), y -> y.held(0, 2, 1),
+        refused(Checks::some, BAD, y -> y.held(0, -1, 4), y -> y.held(0, -1, -1), y -> y.held(0, 0, 5), y -> y.held(0, 5, 5), y -> y.held(0, 2, 1),
             y -> y.held(0, 4, 3), y -> y.held(0, 1, 0), y -> y.held(0, MIN, 4), y -> y.held(0, 0, MAX), y -> y.held(0, MIN, MAX), y -> y.held(0, MAX, MIN));
     }
 
@@ -609,7 +609,7 @@ final class TermsBoundaries extends Boundary {
         due(x.moment(0, 0, 4), 1);
         // (2 / 3)^4 / 3 and 2 (1 / 3)^4 / 3
         holds(x, 0, 2, 27);
-        refused(Boundary::some, BAD, y -> y.moment(0, 0, 1), y -> y.moment(0, 0, 3), y -> y.moment(0, 0, 5), y -> y.moment(0, 0, 0), y -> y.moment(0, 0, 6),
+        refused(Checks::some, BAD, y -> y.moment(0, 0, 1), y -> y.moment(0, 0, 3), y -> y.moment(0, 0, 5), y -> y.moment(0, 0, 0), y -> y.moment(0, 0, 6),
             y -> y.moment(0, 0, -2), y -> y.moment(0, 0, -4), y -> y.moment(0, 0, MIN), y -> y.moment(0, 0, MAX));
     }
 
@@ -623,9 +623,9 @@ final class TermsBoundaries extends Boundary {
             due(x.tail(0, 0, 120, side), 1);
             holds(x, 0, side == 1 ? 1 : 0, 1);
         }
-        refused(Boundary::some, BAD, y -> y.tail(0, 0, -1, 0), y -> y.tail(0, 0, 121, 0), y -> y.tail(0, 0, -1, 1), y -> y.tail(0, 0, 121, 1),
+        refused(Checks::some, BAD, y -> y.tail(0, 0, -1, 0), y -> y.tail(0, 0, 121, 0), y -> y.tail(0, 0, -1, 1), y -> y.tail(0, 0, 121, 1),
             y -> y.tail(0, 0, -1, 2), y -> y.tail(0, 0, 121, 2), y -> y.tail(0, 0, MIN, 0), y -> y.tail(0, 0, MAX, 2));
-        refused(Boundary::some, BAD, y -> y.tail(0, 0, 1, -1), y -> y.tail(0, 0, 1, 3), y -> y.tail(0, 0, 1, MIN), y -> y.tail(0, 0, 1, MAX));
+        refused(Checks::some, BAD, y -> y.tail(0, 0, 1, -1), y -> y.tail(0, 0, 1, 3), y -> y.tail(0, 0, 1, MIN), y -> y.tail(0, 0, 1, MAX));
     }
 
     private static void tailSideZero() {
@@ -972,11 +972,11 @@ final class TermsBoundaries extends Boundary {
     private static void firstOfTheAnswers() {
         sentence("Terms", "Answers below 0, the first that is so: BAD: a number is not as told; NOTHING: a PLACE that is asked holds nothing; FULL; WIDE");
         // BAD ahead of NOTHING: PLACE 1 of some() is empty
-        refused(Boundary::some, BAD, y -> y.work(4, 0, 1, 1), y -> y.work(0, 16, 1, 1), y -> y.work(0, 0, 1, 16), y -> y.work(0, 0, 16, 1),
+        refused(Checks::some, BAD, y -> y.work(4, 0, 1, 1), y -> y.work(0, 16, 1, 1), y -> y.work(0, 0, 1, 16), y -> y.work(0, 0, 16, 1),
             y -> y.work(3, 16, 1, 0), y -> y.order(1, 16), y -> y.order(16, 1), y -> y.limbs(1, 2), y -> y.limb(1, 2, 0), y -> y.digits(1, 19));
         // BAD ahead of FULL
-        refused(Boundary::allSources, BAD, y -> y.coins(41, 1, 2), y -> y.drawn(0, 0, 0), y -> y.sums(13), y -> y.both(0, 16), y -> y.held(0, 1, 0));
-        refused(Boundary::allWeights, BAD, y -> y.weight(-1), y -> y.weight(1001));
+        refused(Checks::allSources, BAD, y -> y.coins(41, 1, 2), y -> y.drawn(0, 0, 0), y -> y.sums(13), y -> y.both(0, 16), y -> y.held(0, 1, 0));
+        refused(Checks::allWeights, BAD, y -> y.weight(-1), y -> y.weight(1001));
         Setup fullWithoutWeights = y -> {
             allSources(y);
             y.wipe();
@@ -1002,16 +1002,16 @@ final class TermsBoundaries extends Boundary {
         refused(TermsBoundaries::widestAbove, NOTHING, y -> y.work(1, 0, 0, 9), y -> y.work(0, 0, 9, 0), y -> y.limb(9, 0, 99), y -> y.digits(9, 18));
         refused(TermsBoundaries::widestAbove, BAD, y -> y.work(1, 16, 0, 0), y -> y.work(4, 0, 0, 0), y -> y.digits(0, 19), y -> y.limb(0, 2, 99));
         // BAD ahead of NONE
-        refused(Boundary::some, BAD, y -> y.counted(1, 121), y -> y.counted(1, -1), y -> y.needed(0, 1, 0, 1, 2), y -> y.needed(0, 1, 0, 0, 0));
+        refused(Checks::some, BAD, y -> y.counted(1, 121), y -> y.counted(1, -1), y -> y.needed(0, 1, 0, 1, 2), y -> y.needed(0, 1, 0, 0, 0));
     }
 
     private static void nothingChanges() {
         sentence("Terms", "WIDE; then nothing changes.");
-        refused(Boundary::some, NOTHING, y -> y.work(0, 0, 1, 0), y -> y.work(1, 7, 0, 1), y -> y.work(2, 1, 1, 1), y -> y.work(3, 0, 1, 0),
+        refused(Checks::some, NOTHING, y -> y.work(0, 0, 1, 0), y -> y.work(1, 7, 0, 1), y -> y.work(2, 1, 1, 1), y -> y.work(3, 0, 1, 0),
             y -> y.order(0, 1), y -> y.order(1, 0), y -> y.limbs(1, 0), y -> y.limb(1, 1, 0), y -> y.digits(1, 0));
-        refused(Boundary::some, NONE, y -> y.counted(1, 0), y -> y.counted(3, 0), y -> y.counted(4, 0), y -> y.limb(0, 0, 1), y -> y.limb(0, 1, -1),
+        refused(Checks::some, NONE, y -> y.counted(1, 0), y -> y.counted(3, 0), y -> y.counted(4, 0), y -> y.limb(0, 0, 1), y -> y.limb(0, 1, -1),
             y -> y.needed(0, 1, 0, 1, 0), y -> y.needed(1, 1, 0, 1, 1));
-        refused(Boundary::allWeights, FULL, y -> y.weight(0), y -> y.weight(1000));
-        refused(Boundary::wideTotal, WIDE, y -> y.both(2, 3));
+        refused(Checks::allWeights, FULL, y -> y.weight(0), y -> y.weight(1000));
+        refused(Checks::wideTotal, WIDE, y -> y.both(2, 3));
     }
 }

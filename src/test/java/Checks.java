@@ -9,8 +9,8 @@ import java.util.Set;
 import java.util.TreeMap;
 import java.util.TreeSet;
 
-/** What the tests of the boundary cases share: names that quote the document, and twins that tell what a call has changed. */
-class Boundary {
+/** What the tests of the document share: names that quote it, and twins that tell what a call has changed. */
+class Checks {
     static final int BAD = -1, NOTHING = -2, FULL = -3, WIDE = -4, NONE = -5;
     static final int MIN = Integer.MIN_VALUE, MAX = Integer.MAX_VALUE;
     static final int CALLS = 512;
@@ -27,17 +27,18 @@ class Boundary {
     private static final Map<String, String> DOCUMENT = new TreeMap<>();
     private static final Set<String> TOLD = new TreeSet<>();
     private static String name = "";
-    private static int sentences = 0;
+    private static int tests = 0;
     private static int step = 0;
     private static int answers = 0;
     private static int wrong = 0;
 
-    Boundary() {
+    Checks() {
     }
 
     // ---- the document
 
-    static void readDocument(Path path) throws IOException {
+    static void readDocument() throws IOException {
+        Path path = Path.of(System.getProperty("shared", "../shared"), "DOC.md");
         for (String section : Files.readString(path).split("(?m)^## ")) {
             int end = section.indexOf('\n');
             if (end > 0) {
@@ -52,32 +53,47 @@ class Boundary {
 
     /** Begins the test of one sentence; the heading and the words must stand in the document, so that they can be found there. */
     static void sentence(String heading, String quote) {
-        endSentence();
-        name = heading + " | " + quote;
-        step = 0;
-        sentences++;
-        TOLD.add(heading);
+        begin(heading, heading + " | " + quote);
         if (!DOCUMENT.getOrDefault(heading, "").contains(flat(quote))) {
             fail("the document does not say so there");
         }
     }
 
-    private static void endSentence() {
-        if (sentences > 0 && step == 0) {
+    /** Begins the test of all that stands under one heading. */
+    static void heading(String heading) {
+        begin(heading, heading);
+        if (!DOCUMENT.containsKey(heading)) {
+            fail("the document has no such heading");
+        }
+    }
+
+    private static void begin(String heading, String test) {
+        endTest();
+        name = test;
+        step = 0;
+        tests++;
+        TOLD.add(heading);
+    }
+
+    private static void endTest() {
+        if (tests > 0 && step == 0) {
             fail("nothing was tested");
         }
     }
 
-    /** Answers if all was as due. */
-    static boolean end() {
-        endSentence();
+    static void everyPromise() {
         for (String heading : DOCUMENT.keySet()) {
             if (heading.startsWith("Promise ") && !TOLD.contains(heading)) {
                 wrong++;
-                System.out.println("no boundary test for " + heading);
+                System.out.println("no test for " + heading);
             }
         }
-        System.out.println("boundaries: " + sentences + " sentences, " + answers + " answers, " + wrong + " not as due");
+    }
+
+    /** Answers if all was as due. */
+    static boolean end(String what) {
+        endTest();
+        System.out.println(what + ": " + tests + " tests, " + answers + " answers, " + wrong + " not as due");
         return wrong == 0;
     }
 
@@ -134,8 +150,12 @@ class Boundary {
 
     /** Like holds, but the fraction need not be told in lowest terms. */
     static void share(TailBounds x, int p, long above, long below) {
-        long common = BigInteger.valueOf(above).gcd(BigInteger.valueOf(below)).longValue();
-        holds(x, p, above / common, below / common);
+        share(x, p, BigInteger.valueOf(above), BigInteger.valueOf(below));
+    }
+
+    static void share(TailBounds x, int p, BigInteger above, BigInteger below) {
+        BigInteger common = above.gcd(below);
+        holds(x, p, above.divide(common), below.divide(common));
     }
 
     static int bits(TailBounds x, int p, int part) {
